@@ -348,7 +348,7 @@ public final class PadConsole {
     }
 
     private void endLine() {
-        if (screen.value(Video.LINE) < screen.height()) {
+        if (screen.held(Video.LINE) < screen.height()) {
             painter.draw();
         }
         if (screen.goesToNextLine()) {
@@ -370,7 +370,7 @@ public final class PadConsole {
         // load() changes these two rows with each other, so that no byte has to be carried.
         private int[] tape = new int[TAPE_SIZE];
         private int[] rom = new int[TAPE_SIZE];
-        private int tapeLength;
+        int tapeLength;
         private int base;
         private int size;
         private int banks;
@@ -765,8 +765,9 @@ public final class PadConsole {
         }
 
         private int fetchWord() {
-            int low = fetch();
-            return low | fetch() << 8;
+            int w = memory.read(r[PC]) | memory.read(r[PC] + 1) << 8;
+            r[PC] = r[PC] + 2 & 0xffff;
+            return w;
         }
 
         private void growR() {
@@ -789,7 +790,7 @@ public final class PadConsole {
         }
 
         private int pop() {
-            int w = readWord(r[SP]);
+            int w = memory.read(r[SP]) | memory.read(r[SP] + 1) << 8;
             r[SP] = r[SP] + 2 & 0xffff;
             return w;
         }
@@ -1630,8 +1631,13 @@ public final class PadConsole {
                 case 23: return height();
                 case 24: return hCount();
                 case 25: return vCount();
-                default: return what >= 0 && what < PLACES ? s[what] : 0;
+                default: return held(what);
             }
+        }
+
+        /** What the row holds, without what is told by other numbers of it. */
+        int held(int k) {
+            return k >= 0 && k < PLACES ? s[k] : 0;
         }
 
         int vramByte(int place) {
@@ -1862,18 +1868,18 @@ public final class PadConsole {
         }
 
         void draw() {
-            int line = chip.value(Video.LINE);
+            int line = chip.held(Video.LINE);
             if (line < 0 || line >= MOST_LINES) {
                 return;
             }
             int mode = chip.mode();
-            int back = (mode == 4 ? 16 : 0) + (chip.value(7) & 15);
-            if ((chip.value(1) & 0x40) == 0) {
+            int back = (mode == 4 ? 16 : 0) + (chip.held(7) & 15);
+            if ((chip.held(1) & 0x40) == 0) {
                 Arrays.fill(numbers, back);
             } else if (mode == 4) {
                 drawTiles(line);
                 drawSprites(line);
-                if ((chip.value(0) & 0x20) != 0) {
+                if ((chip.held(0) & 0x20) != 0) {
                     Arrays.fill(numbers, 0, 8, back);
                 }
             } else {
@@ -1893,8 +1899,8 @@ public final class PadConsole {
             for (int i = 0; i < 32; i++) {
                 if (mode == 4) {
                     colours[i] = handy
-                        ? (chip.value(Video.CRAM + 2 * i) | chip.value(Video.CRAM + 2 * i + 1) << 8) & 4095
-                        : chip.value(Video.CRAM + i) & 63;
+                        ? (chip.held(Video.CRAM + 2 * i) | chip.held(Video.CRAM + 2 * i + 1) << 8) & 4095
+                        : chip.held(Video.CRAM + i) & 63;
                 } else {
                     int c = FIXED_COLOURS[i & 15];
                     colours[i] = handy ? 5 * (c & 3) + 80 * (c >> 2 & 3) + 1280 * (c >> 4) : c;
@@ -1912,11 +1918,11 @@ public final class PadConsole {
 
         private void drawTiles(int line) {
             boolean tall = chip.height() != 192;
-            int register0 = chip.value(0);
-            int register2 = chip.value(2);
+            int register0 = chip.held(0);
+            int register2 = chip.held(2);
             int names = tall ? 4096 * (register2 >> 2 & 3) + 1792 : 1024 * (register2 & 14);
-            int across = line < 16 && (register0 & 0x40) != 0 ? 0 : chip.value(8);
-            int down = (line + chip.value(Video.SCROLL)) % (tall ? 256 : 224);
+            int across = line < 16 && (register0 & 0x40) != 0 ? 0 : chip.held(8);
+            int down = (line + chip.held(Video.SCROLL)) % (tall ? 256 : 224);
             boolean still = (register0 & 0x80) != 0;
             for (int i = 0; i < WIDTH; i++) {
                 int column = i - across & 255;
@@ -1949,7 +1955,7 @@ public final class PadConsole {
 
         private void drawSprites(int line) {
             Arrays.fill(sprites, 0);
-            int table = 256 * (chip.value(5) >> 1 & 63);
+            int table = 256 * (chip.held(5) >> 1 & 63);
             boolean ends = chip.height() == 192;
             int found = 0;
             for (int n = 0; n < 64; n++) {
@@ -1976,7 +1982,7 @@ public final class PadConsole {
 
         /** Which of its own rows a sprite has on a line, -1 if it is not there. */
         private int rowOfSprite(int line, int up) {
-            int shape = chip.value(1);
+            int shape = chip.held(1);
             int row = line - up - 1 & 255;
             if ((shape & 1) != 0) {
                 row >>= 1;
@@ -1985,9 +1991,9 @@ public final class PadConsole {
         }
 
         private void drawSprite(int at, int row) {
-            int left = chip.vramByte(at) - ((chip.value(0) & 8) != 0 ? 8 : 0);
-            int tile = chip.vramByte(at + 1) + ((chip.value(6) & 4) != 0 ? 256 : 0);
-            int shape = chip.value(1);
+            int left = chip.vramByte(at) - ((chip.held(0) & 8) != 0 ? 8 : 0);
+            int tile = chip.vramByte(at + 1) + ((chip.held(6) & 4) != 0 ? 256 : 0);
+            int shape = chip.held(1);
             int twice = shape & 1;
             takePlanes(32 * ((shape & 2) != 0 ? tile & ~1 : tile) + 4 * row);
             for (int i = 0; i < 8 << twice; i++) {
@@ -2005,7 +2011,7 @@ public final class PadConsole {
 
         /** The modes 0 to 3, but for sprites; 0 stands where BACK comes. */
         private void drawOld(int mode, int line) {
-            int names = 1024 * (chip.value(2) & 15);
+            int names = 1024 * (chip.held(2) & 15);
             if (mode == 1) {
                 drawText(names, line);
                 return;
@@ -2014,7 +2020,7 @@ public final class PadConsole {
                 int tile = chip.vramByte(names + 32 * (line >> 3) + column);
                 switch (mode) {
                     case 0:
-                        drawPattern(8 * column, patternAt(tile, line), chip.vramByte(64 * chip.value(3) + (tile >> 3)));
+                        drawPattern(8 * column, patternAt(tile, line), chip.vramByte(64 * chip.held(3) + (tile >> 3)));
                         break;
                     case 2:
                         drawThird(8 * column, tile + 256 * (line >> 6), line & 7);
@@ -2027,11 +2033,11 @@ public final class PadConsole {
         }
 
         private int patternAt(int tile, int line) {
-            return chip.vramByte(2048 * (chip.value(4) & 7) + 8 * tile + (line & 7));
+            return chip.vramByte(2048 * (chip.held(4) & 7) + 8 * tile + (line & 7));
         }
 
         private void drawText(int names, int line) {
-            int ink = chip.value(7);
+            int ink = chip.held(7);
             Arrays.fill(numbers, 0);
             for (int column = 0; column < 40; column++) {
                 int bits = patternAt(chip.vramByte(names + 40 * (line >> 3) + column), line);
@@ -2048,8 +2054,8 @@ public final class PadConsole {
         }
 
         private void drawThird(int left, int tile, int row) {
-            int register3 = chip.value(3);
-            int register4 = chip.value(4);
+            int register3 = chip.held(3);
+            int register4 = chip.held(4);
             int u = tile & 256 * (register4 & 3) + 255;
             int w = tile & 8 * (register3 & 127) + 7;
             int bits = chip.vramByte(8192 * (register4 >> 2 & 1) + 8 * u + row);
@@ -2057,14 +2063,14 @@ public final class PadConsole {
         }
 
         private void drawBlocks(int left, int tile, int line) {
-            int at = 2048 * (chip.value(4) & 7) + 8 * tile + 2 * (line >> 3 & 3) + (line >> 2 & 1);
+            int at = 2048 * (chip.held(4) & 7) + 8 * tile + 2 * (line >> 3 & 3) + (line >> 2 & 1);
             // Four dots of the high colour, then four of the low one.
             drawPattern(left, 0xf0, chip.vramByte(at));
         }
 
         private void drawOldSprites(int line) {
             Arrays.fill(sprites, 0);
-            int table = 128 * (chip.value(5) & 127);
+            int table = 128 * (chip.held(5) & 127);
             int found = 0;
             for (int n = 0; n < 32; n++) {
                 int at = table + 4 * n;
@@ -2093,10 +2099,10 @@ public final class PadConsole {
             int last = chip.vramByte(at + 3);
             int left = chip.vramByte(at + 1) - ((last & 0x80) != 0 ? 32 : 0);
             int pattern = chip.vramByte(at + 2);
-            int shape = chip.value(1);
+            int shape = chip.held(1);
             int twice = shape & 1;
             boolean large = (shape & 2) != 0;
-            int from = 2048 * (chip.value(6) & 7) + 8 * (large ? pattern & ~3 : pattern) + row;
+            int from = 2048 * (chip.held(6) & 7) + 8 * (large ? pattern & ~3 : pattern) + row;
             int bits = chip.vramByte(from) << 8 | (large ? chip.vramByte(from + 16) : 0);
             for (int i = 0; i < (large ? 16 : 8) << twice; i++) {
                 int x = left + i;
@@ -2293,6 +2299,12 @@ public final class PadConsole {
 
         private final int[] s = new int[PLACES];
         private final int[] kept = new int[PLACES];
+        // What the channel that is being moved has; its operators share it.
+        private boolean rhythm;
+        private int channel;
+        private int f;
+        private int block;
+        private long patch;
 
         Waves() {
             clear();
@@ -2343,19 +2355,15 @@ public final class PadConsole {
             }
         }
 
-        private boolean hasRhythm() {
-            return (s[14] & 0x20) != 0;
-        }
-
         void makeNext() {
             s[N]++;
-            boolean rhythm = hasRhythm();
+            rhythm = (s[14] & 0x20) != 0;
             int sum = 0;
             for (int c = 0; c < CHANNELS; c++) {
-                long patch = patchOf(c);
-                moveOperator(c, 0, patch);
-                moveOperator(c, 1, patch);
+                takeChannel(c);
                 int at = OPERATORS + 16 * c;
+                moveOperator(at, 0);
+                moveOperator(at + 8, 1);
                 int first = rhythm && c >= 7 ? s[at + OUT] : 0;
                 sum += (first + s[at + 8 + OUT]) * (rhythm && c >= 6 ? 2 : 1);
             }
@@ -2364,56 +2372,50 @@ public final class PadConsole {
             s[LATEST] = sum;
         }
 
-        private long patchOf(int c) {
-            int number = hasRhythm() && c >= 6 ? 10 + c : s[48 + c] >> 4;
-            if (number > 0) {
-                return PATCHES[Math.min(number, PATCHES.length) - 1];
+        private void takeChannel(int c) {
+            channel = c;
+            f = s[16 + c] | (s[32 + c] & 1) << 8;
+            block = s[32 + c] >> 1 & 7;
+            int number = rhythm && c >= 6 ? 10 + c : s[48 + c] >> 4;
+            if (number > 0 && number <= PATCHES.length) {
+                patch = PATCHES[number - 1];
+                return;
             }
-            long own = 0;
+            patch = 0;
             for (int i = 0; i < 8; i++) {
-                own = own << 8 | s[i];
+                patch = patch << 8 | s[i];
             }
-            return own;
         }
 
-        private static int part(long patch, int k) {
+        private int part(int k) {
             return (int) (patch >>> 56 - 8 * k) & 255;
         }
 
-        private int frequency(int c) {
-            return s[16 + c] | (s[32 + c] & 1) << 8;
-        }
-
-        private int blockOf(int c) {
-            return s[32 + c] >> 1 & 7;
-        }
-
-        private void moveOperator(int c, int o, long patch) {
-            int at = OPERATORS + 16 * c + 8 * o;
-            int on = isOn(c, o) ? 1 : 0;
+        private void moveOperator(int at, int o) {
+            int on = isOn(o) ? 1 : 0;
             if (on != s[at + ON]) {
                 s[at + ON] = on;
                 s[at + STATE] = on == 1 ? 0 : 4;
             }
-            int head = part(patch, o);
-            int rate = rateOf(c, o, patch);
+            int rate = rateIn(s[at + STATE], o);
             if (rate > 0) {
-                int key = 2 * blockOf(c) + (frequency(c) >> 8);
-                moveLevel(at, rate, (head & 0x10) != 0 ? key : key / 4);
+                moveLevel(at, rate, (part(o) & 0x10) != 0);
             }
-            moveState(at, part(patch, 6 + o) >> 4);
-            movePhase(at, c, head);
-            moveOut(c, o, patch);
+            moveState(at, part(6 + o) >> 4);
+            movePhase(at, part(o));
+            int p = turnedPhase(at, o) & 1023;
+            s[at + OUT2] = s[at + OUT];
+            s[at + OUT] = s[at + LEVEL] >= SILENT_LEVEL ? 0 : waveAt(p, softness(at, o), (part(3) >> 3 + o & 1) == 1);
         }
 
-        private boolean isOn(int c, int o) {
-            if ((s[32 + c] & 0x10) != 0) {
+        private boolean isOn(int o) {
+            if ((s[32 + channel] & 0x10) != 0) {
                 return true;
             }
-            if (!hasRhythm()) {
+            if (!rhythm) {
                 return false;
             }
-            switch (c) {
+            switch (channel) {
                 case 6: return (s[14] & 0x10) != 0;
                 case 7: return (s[14] & (o == 0 ? 1 : 8)) != 0;
                 case 8: return (s[14] & (o == 0 ? 4 : 2)) != 0;
@@ -2421,23 +2423,27 @@ public final class PadConsole {
             }
         }
 
-        private int rateOf(int c, int o, long patch) {
-            boolean stays = (part(patch, o) & 0x20) != 0;
-            int release = part(patch, 6 + o) & 15;
-            switch (s[OPERATORS + 16 * c + 8 * o + STATE]) {
+        private int rateIn(int state, int o) {
+            boolean stays = (part(o) & 0x20) != 0;
+            int release = part(6 + o) & 15;
+            switch (state) {
                 case 0: return 12;
-                case 1: return part(patch, 4 + o) >> 4;
-                case 2: return part(patch, 4 + o) & 15;
+                case 1: return part(4 + o) >> 4;
+                case 2: return part(4 + o) & 15;
                 case 3: return stays ? 0 : release;
                 default:
-                    if ((s[32 + c] & 0x20) != 0) {
+                    if ((s[32 + channel] & 0x20) != 0) {
                         return 5;
                     }
                     return stays ? release : 7;
             }
         }
 
-        private void moveLevel(int at, int rate, int key) {
+        private void moveLevel(int at, int rate, boolean keyed) {
+            int key = 2 * block + (f >> 8);
+            if (!keyed) {
+                key /= 4;
+            }
             int h = Math.min(15, rate + key / 4);
             int ticks = TICKS[key & 3];
             if (s[at + STATE] == 1) {
@@ -2479,104 +2485,83 @@ public final class PadConsole {
 
         private void moveState(int at, int depth) {
             int level = s[at + LEVEL];
-            switch (s[at + STATE]) {
-                case 0:
-                    if (level >= SILENT_LEVEL) {
-                        s[at + STATE] = 1;
-                        s[at + PHASE] = 0;
-                    }
-                    break;
-                case 1:
-                    if (level == 0) {
-                        s[at + STATE] = 2;
-                    }
-                    break;
-                case 2:
-                    if (level / 8 >= depth) {
-                        s[at + STATE] = 3;
-                    }
-                    break;
-                default:
-                    break;
+            int state = s[at + STATE];
+            if (state == 0 && level >= SILENT_LEVEL) {
+                s[at + STATE] = 1;
+                s[at + PHASE] = 0;
+            } else if (state == 1 && level == 0) {
+                s[at + STATE] = 2;
+            } else if (state == 2 && level / 8 >= depth) {
+                s[at + STATE] = 3;
             }
         }
 
-        private void movePhase(int at, int c, int head) {
-            int f = frequency(c);
+        private void movePhase(int at, int head) {
             int w = (head & 0x40) != 0 ? sway(f / 64) : 0;
-            int more = ((2 * f + w) * MULTIPLES[head & 15] << blockOf(c)) / 4;
+            int more = ((2 * f + w) * MULTIPLES[head & 15] << block) / 4;
             s[at + PHASE] = s[at + PHASE] + more & 0x7ffff;
         }
 
-        private int sway(int f) {
+        private int sway(int most) {
             switch (s[N] >> 10 & 7) {
-                case 1: case 3: return f / 2;
-                case 2: return f;
-                case 5: case 7: return -(f / 2);
-                case 6: return -f;
+                case 1: case 3: return most / 2;
+                case 2: return most;
+                case 5: case 7: return -(most / 2);
+                case 6: return -most;
                 default: return 0;
             }
         }
 
-        private void moveOut(int c, int o, long patch) {
-            int at = OPERATORS + 16 * c + 8 * o;
+        /** P + d of the document, or what stands for it with RHYTHM. */
+        private int turnedPhase(int at, int o) {
             int p = s[at + PHASE] >> 9;
-            int out = s[at + OUT];
-            if (hasRhythm() && c >= 7) {
-                p = drumPhase(c, o, p);
-            } else if (o == 1) {
-                p += s[at - 8 + OUT];
-            } else {
-                int back = part(patch, 3) & 7;
-                p += back == 0 ? 0 : out + s[at + OUT2] >> 9 - back;
+            if (rhythm && channel >= 7) {
+                return drumPhase(p, o);
             }
-            s[at + OUT2] = out;
-            s[at + OUT] = s[at + LEVEL] >= SILENT_LEVEL ? 0 : waveAt(c, o, patch, p & 1023);
+            if (o == 1) {
+                return p + s[at - 8 + OUT];
+            }
+            int back = part(3) & 7;
+            return back == 0 ? p : p + (s[at + OUT] + s[at + OUT2] >> 9 - back);
         }
 
-        private int drumPhase(int c, int o, int p) {
+        private int drumPhase(int p, int o) {
             int a = s[OPERATORS + 16 * 7 + PHASE] >> 9;
             int b = s[OPERATORS + 16 * 8 + 8 + PHASE] >> 9;
             boolean x = ((a >> 2 ^ a >> 7 | a >> 3 ^ b >> 5 | b >> 3 ^ b >> 5) & 1) != 0;
             boolean y = (s[DUST] & 1) == 1;
-            switch (2 * c + o) {
-                case 14:
-                    if (x) {
-                        return y ? 0x2d0 : 0x234;
-                    }
-                    return y ? 0x34 : 0xd0;
-                case 15:
-                    if ((p & 0x200) != 0) {
-                        return y ? 0x300 : 0x200;
-                    }
-                    return y ? 0 : 0x100;
-                case 16: return p;
-                default: return x ? 0x300 : 0x100;
+            if (channel == 8) {
+                return o == 0 ? p : x ? 0x300 : 0x100;
             }
+            if (o == 0) {
+                return x ? y ? 0x2d0 : 0x234 : y ? 0x34 : 0xd0;
+            }
+            return (p & 0x200) != 0 ? y ? 0x300 : 0x200 : y ? 0 : 0x100;
         }
 
-        private int waveAt(int c, int o, long patch, int p) {
+        private static int waveAt(int p, int t, boolean halved) {
             boolean below = (p & 0x200) != 0;
-            if (below && (part(patch, 3) >> 3 + o & 1) == 1) {
+            if (below && halved) {
                 return 0;
             }
             int i = (p & 0x100) != 0 ? 255 - (p & 255) : p & 255;
-            int v = LOGS[i] + 16 * softness(c, o, patch);
+            int v = LOGS[i] + 16 * t;
             int value = 2 * (1024 + POWERS[255 - (v & 255)] >> (v >> 8));
             return below ? -value : value;
         }
 
-        private int softness(int c, int o, long patch) {
-            int volume = s[48 + c];
-            int t = s[OPERATORS + 16 * c + 8 * o + LEVEL] + scaled(c, part(patch, 2 + o) >> 6);
+        /** t of the document. */
+        private int softness(int at, int o) {
+            int volume = s[48 + channel];
+            int t = s[at + LEVEL] + scaled(part(2 + o) >> 6);
             if (o == 1) {
                 t += 8 * (volume & 15);
-            } else if (hasRhythm() && c >= 7) {
+            } else if (rhythm && channel >= 7) {
                 t += 8 * (volume >> 4);
             } else {
-                t += 2 * (part(patch, 2) & 63);
+                t += 2 * (part(2) & 63);
             }
-            if ((part(patch, o) & 0x80) != 0) {
+            if ((part(o) & 0x80) != 0) {
                 t += tremble();
             }
             return Math.min(MOST_LEVEL, t);
@@ -2589,11 +2574,11 @@ public final class PadConsole {
         }
 
         /** G of the document. */
-        private int scaled(int c, int scale) {
+        private int scaled(int scale) {
             if (scale == 0) {
                 return 0;
             }
-            int k = SCALES[frequency(c) >> 5 & 15] - 16 * (7 - blockOf(c));
+            int k = SCALES[f >> 5 & 15] - 16 * (7 - block);
             return Math.max(0, k) >> 3 - scale;
         }
     }
@@ -2661,8 +2646,8 @@ public final class PadConsole {
 
         private final Sound tones;
         private final Waves synth;
-        private final Ring samples = new Ring();
-        private final Ring mixes = new Ring();
+        final Ring samples = new Ring();
+        final Ring mixes = new Ring();
         private final long[] counts = new long[PLACES];
         private final long[] kept = new long[PLACES];
 
@@ -2839,27 +2824,31 @@ public final class PadConsole {
     }
 
     /**
-     * Writes TEXT by patterns: small letters and signs stand for themselves, large letters for what the op tells,
-     * and patterns of one list are parted by semicolons.
+     * Writes TEXT by patterns: small letters and signs stand for themselves, large letters for what the op tells.
+     * Semicolons part the patterns of a list; y tells which one is meant, modulo how many there are.
      */
     private static final class Teller {
         private static final int MOST_SIGNS = 32;
         private static final String DIGITS = "0123456789abcdef";
         private static final String ONES = "b;c;d;e;h;l;(hl);a";
-        private static final String DEEDS = "add;adc;sub;sbc;and;xor;or;cp";
-        private static final String TURNS = "rlc;rrc;rl;rr;sla;sra;sll;srl";
+        private static final String PAIRS = "bc;de;hl;sp";
+        private static final String STACK_PAIRS = "bc;de;hl;af";
+        private static final String CONDITIONS = "nz;z;nc;c;po;pe;p;m";
 
         private final Memory memory;
         private final int[] signs = new int[MOST_SIGNS];
-        private int length;
+        int length;
         private int at;
         private int count;
+        private int x;
         private int y;
         private int z;
         // 0 without a prefix, else the second letter of ix or iy.
         private int prefix;
         // Whether (ix+d) is in the text, so that h and l are themselves.
         private boolean beside;
+        // d of an op behind a prefix and CB, which comes ahead of that op.
+        private int early;
 
         Teller(Memory memory) {
             this.memory = memory;
@@ -2876,20 +2865,14 @@ public final class PadConsole {
             if (op == 0xdd || op == 0xfd) {
                 int next = memory.read(at + 1);
                 if (next == 0xdd || next == 0xed || next == 0xfd) {
-                    put("nop", 0);
+                    put("nop");
                     return count;
                 }
                 prefix = op == 0xdd ? 'x' : 'y';
                 op = take();
                 beside = op == 0xcb || Processor.meansPlace(op);
             }
-            if (op == 0xcb) {
-                writeTurn();
-            } else if (op == 0xed) {
-                writeMore(split(take()));
-            } else {
-                writePlain(split(op));
-            }
+            put(patternsOf(op));
             return count;
         }
 
@@ -2899,10 +2882,10 @@ public final class PadConsole {
             return v;
         }
 
-        private int split(int op) {
+        private void split(int op) {
+            x = op >> 6;
             y = op >> 3 & 7;
             z = op & 7;
-            return op;
         }
 
         long eightFrom(int k) {
@@ -2914,101 +2897,97 @@ public final class PadConsole {
             return v;
         }
 
-        private void writePlain(int op) {
-            switch (op >> 6) {
-                case 0:
-                    writeFirst();
-                    break;
-                case 1:
-                    put(op == 0x76 ? "halt" : "ld Y,Z", 0);
-                    break;
-                case 2:
-                    put(DEEDS, y);
-                    put(" Z", 0);
-                    break;
-                default:
-                    writeLast();
-                    break;
+        private String patternsOf(int op) {
+            if (op == 0xcb) {
+                early = prefix == 0 ? 0 : take();
+                split(take());
+                return turnPatterns();
+            }
+            if (op == 0xed) {
+                split(take());
+                return x == 2 ? blockPatterns() : morePatterns();
+            }
+            split(op);
+            switch (x) {
+                case 0: return firstPatterns();
+                case 1: return op == 0x76 ? "halt" : "ld Y,Z";
+                case 2: return "add Z;adc Z;sub Z;sbc Z;and Z;xor Z;or Z;cp Z";
+                default: return lastPatterns();
             }
         }
 
-        private void writeFirst() {
+        private String firstPatterns() {
             switch (z) {
-                case 0: put("nop;ex af,af2;djnz E;jr E;jr D,E;jr D,E;jr D,E;jr D,E", y); break;
-                case 1: put("ld P,W;add J,P", y & 1); break;
-                case 2: put("ld (bc),a;ld a,(bc);ld (de),a;ld a,(de);ld (W),J;ld J,(W);ld (W),a;ld a,(W)", y); break;
-                case 3: put("inc P;dec P", y & 1); break;
-                case 4: put("inc Y", 0); break;
-                case 5: put("dec Y", 0); break;
-                case 6: put("ld Y,N", 0); break;
-                default: put("rlca;rrca;rla;rra;daa;cpl;scf;ccf", y); break;
+                case 0: return "nop;ex af,af2;djnz E;jr E;jr D,E;jr D,E;jr D,E;jr D,E";
+                case 1: return "ld P,W;add J,P";
+                case 2: return "ld (bc),a;ld a,(bc);ld (de),a;ld a,(de);ld (W),J;ld J,(W);ld (W),a;ld a,(W)";
+                case 3: return "inc P;dec P";
+                case 4: return "inc Y";
+                case 5: return "dec Y";
+                case 6: return "ld Y,N";
+                default: return "rlca;rrca;rla;rra;daa;cpl;scf;ccf";
             }
         }
 
-        private void writeLast() {
+        private String lastPatterns() {
             switch (z) {
-                case 0: put("ret C", 0); break;
-                case 1: put("pop Q;ret;pop Q;exx;pop Q;jp (J);pop Q;ld sp,J", y); break;
-                case 2: put("jp C,W", 0); break;
-                case 3: put("jp W;;out (N),a;in a,(N);ex (sp),J;ex de,J;di;ei", y); break;
-                case 4: put("call C,W", 0); break;
-                case 5: put("push Q;call W", y & 1); break;
-                case 6:
-                    put(DEEDS, y);
-                    put(" N", 0);
-                    break;
-                default: put("rst V", 0); break;
+                case 0: return "ret C";
+                case 1: return "pop Q;ret;pop Q;exx;pop Q;jp (J);pop Q;ld sp,J";
+                case 2: return "jp C,W";
+                case 3: return "jp W;;out (N),a;in a,(N);ex (sp),J;ex de,J;di;ei";
+                case 4: return "call C,W";
+                case 5: return "push Q;call W";
+                case 6: return "add N;adc N;sub N;sbc N;and N;xor N;or N;cp N";
+                default: return "rst V";
             }
         }
 
-        private void writeTurn() {
-            int d = prefix == 0 ? 0 : take();
-            int op = split(take());
-            if (op >> 6 == 0) {
-                put(TURNS, y);
-                put(" ", 0);
-            } else {
-                put(";bit B,;res B,;set B,", op >> 6);
-            }
-            if (prefix == 0) {
-                put("Z", 0);
-                return;
-            }
-            putPlace(d);
-            if (z != 6 && op >> 6 != 1) {
-                put(",Z", 0);
+        private String turnPatterns() {
+            switch (x) {
+                case 0: return "rlc T;rrc T;rl T;rr T;sla T;sra T;sll T;srl T";
+                case 1: return "bit B,T";
+                case 2: return "res B,T";
+                default: return "set B,T";
             }
         }
 
-        private void writeMore(int op) {
-            if ((op & 0xe4) == 0xa0) {
-                put("ldi;cpi;ini;outi;ldd;cpd;ind;outd;ldir;cpir;inir;otir;lddr;cpdr;indr;otdr", 4 * (y & 3) + z);
-                return;
+        private String blockPatterns() {
+            switch (y < 4 ? 7 : z) {
+                case 0: return "ldi;ldd;ldir;lddr";
+                case 1: return "cpi;cpd;cpir;cpdr";
+                case 2: return "ini;ind;inir;indr";
+                case 3: return "outi;outd;otir;otdr";
+                default: return "nop";
             }
-            if (op >> 6 != 1) {
-                put("nop", 0);
-                return;
+        }
+
+        private String morePatterns() {
+            if (x != 1) {
+                return "nop";
             }
             switch (z) {
-                case 0: put("in Y,(c);in (c)", y == 6 ? 1 : 0); break;
-                case 1: put("out (c),Y;out (c),0", y == 6 ? 1 : 0); break;
-                case 2: put("sbc hl,P;adc hl,P", y & 1); break;
-                case 3: put("ld (W),P;ld P,(W)", y & 1); break;
-                case 4: put("neg", 0); break;
-                case 5: put("retn;reti", y == 1 ? 1 : 0); break;
-                case 6: put("im 0;im 0;im 1;im 2", y & 3); break;
-                default: put("ld i,a;ld r,a;ld a,i;ld a,r;rrd;rld;nop;nop", y); break;
+                case 0: return y == 6 ? "in (c)" : "in Y,(c)";
+                case 1: return y == 6 ? "out (c),0" : "out (c),Y";
+                case 2: return "sbc hl,P;adc hl,P";
+                case 3: return "ld (W),P;ld P,(W)";
+                case 4: return "neg";
+                case 5: return y == 1 ? "reti" : "retn";
+                case 6: return "im 0;im 0;im 1;im 2";
+                default: return "ld i,a;ld r,a;ld a,i;ld a,r;rrd;rld;nop;nop";
             }
         }
 
-        /** Puts the k-th pattern of a list. */
-        private void put(String list, int k) {
+        private void put(String patterns) {
+            int parts = 1;
+            for (int i = 0; i < patterns.length(); i++) {
+                parts += patterns.charAt(i) == ';' ? 1 : 0;
+            }
             int part = 0;
-            for (int i = 0; i < list.length(); i++) {
-                int sign = list.charAt(i);
+            for (int i = 0; i < patterns.length(); i++) {
+                int sign = patterns.charAt(i);
                 if (sign == ';') {
                     part++;
-                } else if (part == k) {
+                } else if (part == y % parts) {
                     if (sign >= 'A' && sign <= 'Z') {
                         putMeant(sign);
                     } else {
@@ -3029,11 +3008,12 @@ public final class PadConsole {
             switch (letter) {
                 case 'Y': putOne(y); break;
                 case 'Z': putOne(z); break;
-                case 'P': putPair(y >> 1, "bc;de; ;sp"); break;
-                case 'Q': putPair(y >> 1, "bc;de; ;af"); break;
-                case 'J': putPair(2, ""); break;
-                case 'C': putName("nz;z;nc;c;po;pe;p;m", y); break;
-                case 'D': putName("nz;z;nc;c", y - 4); break;
+                case 'T': putTurned(); break;
+                case 'P': putPair(PAIRS); break;
+                case 'Q': putPair(STACK_PAIRS); break;
+                case 'J': putHl(); break;
+                case 'C': putName(CONDITIONS, y); break;
+                case 'D': putName(CONDITIONS, y - 4); break;
                 case 'B': putSign('0' + y); break;
                 case 'V': putByte(8 * y); break;
                 case 'N': putByte(take()); break;
@@ -3042,14 +3022,14 @@ public final class PadConsole {
             }
         }
 
-        /** As put, for names, which hold no large letters. */
-        private void putName(String list, int k) {
+        /** Puts the k-th name of a list. */
+        private void putName(String names, int k) {
             int part = 0;
-            for (int i = 0; i < list.length(); i++) {
-                if (list.charAt(i) == ';') {
+            for (int i = 0; i < names.length(); i++) {
+                if (names.charAt(i) == ';') {
                     part++;
                 } else if (part == k) {
-                    putSign(list.charAt(i));
+                    putSign(names.charAt(i));
                 }
             }
         }
@@ -3058,27 +3038,41 @@ public final class PadConsole {
             if (k == 6 && prefix != 0) {
                 putPlace(take());
             } else if ((k == 4 || k == 5) && prefix != 0 && !beside) {
-                putPair(2, "");
+                putHl();
                 putSign(k == 4 ? 'h' : 'l');
             } else {
                 putName(ONES, k);
             }
         }
 
-        private void putPair(int p, String others) {
-            if (p != 2) {
-                putName(others, p);
-            } else if (prefix == 0) {
-                putName("hl", 0);
-            } else {
-                putSign('i');
-                putSign(prefix);
+        private void putTurned() {
+            if (prefix == 0) {
+                putName(ONES, z);
+                return;
             }
+            putPlace(early);
+            if (x != 1 && z != 6) {
+                putSign(',');
+                putName(ONES, z);
+            }
+        }
+
+        private void putPair(String names) {
+            if (y >> 1 == 2) {
+                putHl();
+            } else {
+                putName(names, y >> 1);
+            }
+        }
+
+        private void putHl() {
+            putSign(prefix == 0 ? 'h' : 'i');
+            putSign(prefix == 0 ? 'l' : prefix);
         }
 
         private void putPlace(int d) {
             putSign('(');
-            putPair(2, "");
+            putHl();
             putSign(d < 128 ? '+' : '-');
             putByte(d < 128 ? d : 256 - d);
             putSign(')');
