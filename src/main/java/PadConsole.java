@@ -2870,7 +2870,7 @@ public final class PadConsole {
                 }
                 prefix = op == 0xdd ? 'x' : 'y';
                 op = take();
-                beside = op == 0xcb || Processor.meansPlace(op);
+                beside = Processor.meansPlace(op);
             }
             put(patternsOf(op));
             return count;

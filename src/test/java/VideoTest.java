@@ -242,7 +242,7 @@ public final class VideoTest {
                 y.step(57 * 200);
                 for (int line = 200; line < (kind == 1 ? 313 : 262); line++) {
                     int v = (line < from[kind][i] ? line : line - (kind == 1 ? 57 : 6)) & 255;
-                    if (line % 8 == 0 || line >= 215 && line <= 270 && line % 3 != 1) {
+                    if (line % 8 == 0 || line >= 215 && line <= 270) {
                         Due.be("chip(25) of line " + line, y.chip(25), v);
                         Due.be("in(0x7e) of line " + line, y.in(0x7e), v);
                     }
@@ -347,6 +347,7 @@ public final class VideoTest {
         Due.videoRegister(x, 0, 4 | 0x40);
         x.picture(1);
         dots(x, "not scrolled above line 16", 0, 8, 2, 3, 5, 9);
+        dots(x, "not scrolled in line 15", 254, 15, 1, 1);
         dots(x, "scrolled from line 16 on", 0, 16, 3, 5, 9, 1);
         dots(x, "scrolled from line 16 on, at its right end", 254, 16, 1, 2);
         Due.videoRegister(x, 8, 0);

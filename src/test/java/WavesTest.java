@@ -11,7 +11,9 @@ public final class WavesTest {
         rising();
         phases();
         shapes();
+        tables();
         volumes();
+        scales();
         feedback();
         releases();
         levelsByRate();
@@ -200,6 +202,44 @@ public final class WavesTest {
         }
     }
 
+    /** Each entry of L, with LEVEL 0, and of E, with LEVEL 0 to 15. */
+    private static void tables() {
+        for (int quarter = 0; quarter < 2; quarter++) {
+            PadConsole x = frozen(0);
+            waves(x, 1024 + 128 * quarter - phase(x, 0, 1) / 512);
+            for (int n = 0; n < 128; n++) {
+                int p = 128 * quarter + n;
+                Due.be("out at " + p, out(x, 0, 1), shape(p, 0, false));
+                waves(x, 1);
+            }
+        }
+        for (int level = 0; level < 16; level++) {
+            PadConsole x = frozen(level);
+            waves(x, 1024 + 200 - phase(x, 0, 1) / 512);
+            for (int p = 200; p < 256; p++) {
+                Due.be("out at " + p + ", level " + level, out(x, 0, 1), shape(p, level, false));
+                waves(x, 1);
+            }
+        }
+    }
+
+    /** A channel whose operator 1 goes on by 1 a wave, and stays at a level. */
+    private static PadConsole frozen(int level) {
+        PadConsole x = console();
+        plainChannel(x, 1);
+        put(x, 7, 0xf0);
+        put(x, 16, 0);
+        put(x, 32, 0x10 | 1 << 1 | 1);
+        waves(x, 2);
+        for (int i = 0; i < 64 && level(x, 0, 1) != level; i++) {
+            put(x, 5, 0xfd);
+            waves(x, 1);
+        }
+        put(x, 5, 0xf0);
+        Due.be("the level", level(x, 0, 1), level);
+        return x;
+    }
+
     private static void volumes() {
         PadConsole x = console();
         plainChannel(x, 1);
@@ -210,18 +250,6 @@ public final class WavesTest {
             put(x, 48, volume);
             waves(x, 1);
             Due.be("out of volume " + volume, out(x, 0, 1), shape(phase(x, 0, 1) / 512, 8 * volume, false));
-        }
-        put(x, 48, 0);
-        int[] scales = {0, 48, 64, 74, 80, 86, 90, 94, 96, 100, 102, 104, 106, 108, 110, 112};
-        for (int scale = 1; scale < 4; scale++) {
-            put(x, 3, scale << 6);
-            for (int k = 0; k < 16; k++) {
-                put(x, 16, k * 32 & 255);
-                put(x, 32, 0x10 | 6 << 1 | k >> 3);
-                waves(x, 1);
-                int g = Math.max(0, scales[k] - 16) * (1 << scale) / 8;
-                Due.be("out of scale " + scale + ", " + k, out(x, 0, 1), shape(phase(x, 0, 1) / 512, g, false));
-            }
         }
         PadConsole y = console();
         plainChannel(y, 1);
@@ -236,6 +264,26 @@ public final class WavesTest {
             int q = n / 64 % 210;
             int am = (q < 105 ? q : 210 - q) / 8;
             Due.be("out that trembles, " + n, out(y, 0, 1), shape(phase(y, 0, 1) / 512, am, false));
+        }
+    }
+
+    private static void scales() {
+        int[] scales = {0, 48, 64, 74, 80, 86, 90, 94, 96, 100, 102, 104, 106, 108, 110, 112};
+        for (int scale = 0; scale < 4; scale++) {
+            PadConsole x = console();
+            plainChannel(x, 1);
+            put(x, 3, scale << 6);
+            put(x, 32, 0x10);
+            waves(x, 4);
+            for (int k = 0; k < 32; k++) {
+                int block = k < 16 ? 6 : 3;
+                int f = k % 16 * 32 + k;
+                put(x, 16, f & 255);
+                put(x, 32, 0x10 | block << 1 | f >> 8);
+                waves(x, 1);
+                int g = scale == 0 ? 0 : Math.max(0, scales[k % 16] - 16 * (7 - block)) >> 3 - scale;
+                Due.be("out of scale " + scale + ", " + k, out(x, 0, 1), shape(phase(x, 0, 1) / 512, g, false));
+            }
         }
     }
 
