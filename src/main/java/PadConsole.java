@@ -2305,6 +2305,7 @@ public final class PadConsole {
         private int f;
         private int block;
         private long patch;
+        private long ownPatch;
 
         Waves() {
             clear();
@@ -2358,6 +2359,7 @@ public final class PadConsole {
         void makeNext() {
             s[N]++;
             rhythm = (s[14] & 0x20) != 0;
+            takeOwnPatch();
             int sum = 0;
             for (int c = 0; c < CHANNELS; c++) {
                 takeChannel(c);
@@ -2377,13 +2379,13 @@ public final class PadConsole {
             f = s[16 + c] | (s[32 + c] & 1) << 8;
             block = s[32 + c] >> 1 & 7;
             int number = rhythm && c >= 6 ? 10 + c : s[48 + c] >> 4;
-            if (number > 0 && number <= PATCHES.length) {
-                patch = PATCHES[number - 1];
-                return;
-            }
-            patch = 0;
+            patch = number > 0 && number <= PATCHES.length ? PATCHES[number - 1] : ownPatch;
+        }
+
+        private void takeOwnPatch() {
+            ownPatch = 0;
             for (int i = 0; i < 8; i++) {
-                patch = patch << 8 | s[i];
+                ownPatch = ownPatch << 8 | s[i];
             }
         }
 
@@ -2397,15 +2399,22 @@ public final class PadConsole {
                 s[at + ON] = on;
                 s[at + STATE] = on == 1 ? 0 : 4;
             }
-            int rate = rateIn(s[at + STATE], o);
-            if (rate > 0) {
-                moveLevel(at, rate, (part(o) & 0x10) != 0);
+            // What has died away stays as it is till it is on: no rate need be looked for.
+            if (s[at + STATE] != 4 || s[at + LEVEL] < MOST_LEVEL) {
+                moveLevel(at, o);
+                moveState(at, part(6 + o) >> 4);
             }
-            moveState(at, part(6 + o) >> 4);
             movePhase(at, part(o));
-            int p = turnedPhase(at, o) & 1023;
+            moveOut(at, o);
+        }
+
+        private void moveOut(int at, int o) {
+            int out = 0;
+            if (s[at + LEVEL] < SILENT_LEVEL) {
+                out = waveAt(turnedPhase(at, o) & 1023, softness(at, o), (part(3) >> 3 + o & 1) == 1);
+            }
             s[at + OUT2] = s[at + OUT];
-            s[at + OUT] = s[at + LEVEL] >= SILENT_LEVEL ? 0 : waveAt(p, softness(at, o), (part(3) >> 3 + o & 1) == 1);
+            s[at + OUT] = out;
         }
 
         private boolean isOn(int o) {
@@ -2439,9 +2448,13 @@ public final class PadConsole {
             }
         }
 
-        private void moveLevel(int at, int rate, boolean keyed) {
+        private void moveLevel(int at, int o) {
+            int rate = rateIn(s[at + STATE], o);
+            if (rate == 0) {
+                return;
+            }
             int key = 2 * block + (f >> 8);
-            if (!keyed) {
+            if ((part(o) & 0x10) == 0) {
                 key /= 4;
             }
             int h = Math.min(15, rate + key / 4);
@@ -2579,7 +2592,7 @@ public final class PadConsole {
                 return 0;
             }
             int k = SCALES[f >> 5 & 15] - 16 * (7 - block);
-            return Math.max(0, k) >> 3 - scale;
+            return k > 0 ? k >> 3 - scale : 0;
         }
     }
 

@@ -17,6 +17,7 @@ public final class VideoTest {
         scrolling();
         tallPictures();
         sprites();
+        allSprites();
         spritesMeet();
         largeSprites();
         modeZero();
@@ -430,6 +431,32 @@ public final class VideoTest {
         Due.videoRegister(x, 5, 0x7d);
         x.picture(1);
         dots(x, "with sprites from 0x3e00 on", 12, 10, 1, 1);
+    }
+
+    /** There are 64 sprites, and 32 in other modes: what lies behind their bytes is none. */
+    private static void allSprites() {
+        PadConsole x = modeFour(0);
+        int[] ups = new int[65];
+        java.util.Arrays.fill(ups, 200);
+        ups[63] = 20;
+        ups[64] = 40;
+        Due.vram(x, 0x3f00, ups);
+        Due.vram(x, 0x3f80 + 126, 30, 1, 30, 1);
+        x.picture(1);
+        dots(x, "of sprite 63", 30, 21, 18, 19, 21, 25);
+        dots(x, "where sprite 64 would be", 30, 41, 1, 1, 1, 1);
+        PadConsole y = old(0, 0, 0);
+        int[] all = new int[33 * 4];
+        for (int n = 0; n < 33; n++) {
+            all[4 * n] = n == 31 ? 20 : n == 32 ? 40 : 200;
+            all[4 * n + 1] = 30;
+            all[4 * n + 3] = 7;
+        }
+        Due.vram(y, 0x3f00, all);
+        Due.vram(y, 0x3800, 0xff);
+        y.picture(1);
+        dots(y, "of sprite 31", 30, 21, 60, 60);
+        dots(y, "where sprite 32 would be", 30, 41, 16, 16);
     }
 
     private static void spritesMeet() {
