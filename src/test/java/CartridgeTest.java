@@ -349,6 +349,9 @@ public final class CartridgeTest {
         x.poke(0, 3);
         x.poke(0x8000, 3);
         x.poke(0xa000, 3);
+        x.poke(0xdffc, 3);
+        x.poke(0xfffb, 3);
+        Due.be("look(8) behind pokes", x.look(8), 0);
         Due.be("peek(0x8000) behind pokes", x.peek(0x8000), 16 * 7 + 1);
         x.reset();
         Due.be("look(9) behind reset()", x.look(9), 0);

@@ -5,6 +5,7 @@ public final class ProcessorTest {
 
     public static void main(String[] args) {
         registers();
+        oneMoreAndLess();
         sums();
         differences();
         adjusting();
@@ -53,6 +54,26 @@ public final class ProcessorTest {
 
     private static int by(int v) {
         return v & 0xa8 | (v == 0 ? 64 : 0);
+    }
+
+    private static void oneMoreAndLess() {
+        PadConsole x = new PadConsole(0);
+        for (int v = 0; v < 256; v++) {
+            if (v % 32 == 0) {
+                x = new PadConsole(0);
+            }
+            for (int less = 0; less < 2; less++) {
+                Due.code(x, 0x3c + less);
+                x.set(0, v);
+                x.set(1, v);
+                x.step(1);
+                int w = (less == 1 ? v - 1 : v + 1) & 255;
+                int f = by(w) | v & 1 | (less == 1 ? 2 : 0)
+                    | ((w & 15) == 15 * less ? 16 : 0) | (w == 0x80 - less ? 4 : 0);
+                Due.be("A of " + v, x.register(0), w);
+                Due.be("F of " + v, x.register(1), f);
+            }
+        }
     }
 
     /** ADD and ADC with n, from many A, n and C. */

@@ -247,6 +247,12 @@ public final class SoundTest {
         Due.be("look(17), 164 beats", x.look(17), 1);
         Due.be("mix(), of five samples, two of them on", x.mix(), 65536L * 4105 + 2 * 8191 / 5);
         Due.fail("mix() with none", Due.NONE, () -> x.mix());
+        PadConsole y = idle(0);
+        y.out(0x7f, 0x86);
+        y.out(0x7f, 0x97);
+        y.step(42);
+        Due.be("mix(), of five samples that are on", y.mix(), 1634 * 65537L);
+        Due.be("mix(), of five samples, one of them on", y.mix(), 326 * 65537L);
     }
 
     private static void waitingMixes() {

@@ -29,6 +29,7 @@ public final class VideoTest {
         switchedOff();
         handyPictures();
         keptColours();
+        linesBelow();
         Due.end("VideoTest");
     }
 
@@ -720,6 +721,25 @@ public final class VideoTest {
             Due.be("colour " + n + " of a handy console", y.dot(9, 9), 5 * (c & 3) + 80 * (c >> 2 & 3) + 1280 * (c >> 4));
             Due.be("colour " + n, z.dot(9, 9), c);
         }
+    }
+
+    /** What is not below HEIGHT is not drawn, and what is, is drawn to the last line. */
+    private static void linesBelow() {
+        PadConsole x = modeFour(0);
+        for (int n = 0; n < 10; n++) {
+            sprite(x, n, 191, 20, 1);
+        }
+        sprite(x, 10, 208, 0, 0);
+        x.picture(1);
+        Due.be("chip(15), of sprites on line 192", x.chip(15), 0x80);
+        Due.be("dot(0, 191)", x.dot(0, 191), 1);
+        Due.videoRegister(x, 0, 6);
+        Due.videoRegister(x, 1, 0x48);
+        Due.be("dot(0, 192) of what was 192 lines", x.dot(0, 192), 0);
+        x.picture(1);
+        Due.be("dot(0, 239) of 240 lines", x.dot(0, 239), 1);
+        Due.be("row(239) of 240 lines", x.row(239), x.row(238));
+        Due.be("chip(15), of sprites on line 192 of 240", x.chip(15), 0xe0);
     }
 
     private static void keptColours() {

@@ -17,6 +17,8 @@ public final class WavesTest {
         feedback();
         releases();
         levelsByRate();
+        highestRates();
+        silence();
         rhythm();
         dust();
         mixed();
@@ -397,6 +399,58 @@ public final class WavesTest {
                     }
                 }
             }
+        }
+    }
+
+    /** With BLOCK 7 and KEYED three more than the rate, but no more than 15. */
+    private static void highestRates() {
+        for (int rate = 10; rate < 16; rate++) {
+            PadConsole x = console();
+            plainChannel(x, 1);
+            put(x, 1, 0x11);
+            put(x, 7, rate);
+            put(x, 16, 0);
+            put(x, 32, 0x1e);
+            waves(x, 4);
+            int level = level(x, 0, 1);
+            for (int n = 5; n < 30; n++) {
+                waves(x, 1);
+                int u = 2 * (n / 4 % 4);
+                level += rate + 3 >= 15 ? 2 : rate + 3 == 14 ? tick(u, 2) + 1 : tick(u + n % 2, 2);
+                Due.be("level of rate " + rate + " and 3 at " + n, level(x, 0, 1), level);
+            }
+        }
+    }
+
+    /** From LEVEL 124 on there is no sound, and STATE 0 ends. */
+    private static void silence() {
+        for (int stay = 121; stay < 128; stay++) {
+            PadConsole x = console();
+            plainChannel(x, 1);
+            put(x, 1, 0x01);
+            put(x, 16, 255);
+            put(x, 32, 0x10 | 3 << 1);
+            put(x, 7, 0x0e);
+            waves(x, 3);
+            for (int i = 0; i < 130 && level(x, 0, 1) < stay; i++) {
+                put(x, 7, level(x, 0, 1) < stay - 3 ? 0x0f : 0x0d);
+                waves(x, 1);
+            }
+            put(x, 7, 0);
+            Due.be("the level", level(x, 0, 1), stay);
+            waves(x, 1);
+            int due = stay >= 124 ? 0 : shape(phase(x, 0, 1) / 512, stay, false);
+            Due.be("out of level " + stay, out(x, 0, 1), due);
+            put(x, 32, 0);
+            put(x, 1, 0x21);
+            waves(x, 1);
+            put(x, 32, 0x10 | 3 << 1);
+            for (int i = 0; i < 40 && state(x, 0, 1) != 1; i++) {
+                waves(x, 1);
+                Due.be("state of level " + level(x, 0, 1), state(x, 0, 1), level(x, 0, 1) >= 124 ? 1 : 0);
+            }
+            Due.be("the state at last", state(x, 0, 1), 1);
+            Due.be("the phase where STATE 0 ends", phase(x, 0, 1), (2 * 255 * 2 << 3) / 4);
         }
     }
 
