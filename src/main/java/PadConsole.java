@@ -594,7 +594,6 @@ public final class PadConsole {
         private static final int B = 2;
         private static final int C = 3;
         private static final int D = 4;
-        private static final int E = 5;
         private static final int H = 6;
         private static final int L = 7;
         private static final int IX = 16;

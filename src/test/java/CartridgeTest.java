@@ -382,6 +382,7 @@ public final class CartridgeTest {
         x.poke(0xbfff, 12);
         x.poke(0xc000, 13);
         x.poke(0x7fff, 14);
+        Due.be("peek(0xdfff), not the battery", x.peek(0xdfff), 0);
         Due.be("battery(0)", x.battery(0), 11);
         Due.be("battery(16383)", x.battery(16383), 12);
         Due.be("battery(16384)", x.battery(16384), 0);
@@ -394,6 +395,10 @@ public final class CartridgeTest {
         Due.be("battery(1)", x.battery(1), 0);
         Due.be("peek(0xbfff)", x.peek(0xbfff), 16);
         Due.be("peek(0x4000)", x.peek(0x4000), 17);
+        x.poke(0xfffc, 0xf7);
+        Due.be("peek(0x8000) with K 0xf7", x.peek(0x8000), 33);
+        x.poke(0xfffc, 0xf8);
+        Due.be("peek(0xbfff) with K 0xf8", x.peek(0xbfff), 12);
         x.poke(0xfffc, 4);
         Due.be("peek(0x8000) with K 4", x.peek(0x8000), 33);
         x.poke(0x8000, 99);

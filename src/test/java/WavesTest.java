@@ -318,7 +318,7 @@ public final class WavesTest {
     private static void releases() {
         // STATE 4: 5 with HOLD, else RELEASE with STAYS, else 7; the level grows by T.
         int[] heads = {0x21, 0x21, 0x01};
-        int[] holds = {0x20, 0, 0};
+        int[] holds = {0x23, 0x03, 0x03};
         int[] rates = {5, 9, 7};
         for (int k = 0; k < 3; k++) {
             PadConsole x = console();
@@ -326,7 +326,7 @@ public final class WavesTest {
             put(x, 1, heads[k]);
             put(x, 7, 9);
             put(x, 16, 1);
-            put(x, 32, 0x10);
+            put(x, 32, 0x13);
             waves(x, 3);
             put(x, 32, holds[k]);
             int span = 1 << 13 - rates[k];
