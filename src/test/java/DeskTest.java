@@ -162,6 +162,12 @@ public final class DeskTest {
         Due.be("look(12) a step behind EI", x.look(12), 1);
         x.step(1);
         Due.be("register(19) two steps behind EI", x.register(19), 0x66);
+        Due.ram(x, 0xc006, 0xf3, 0x00);
+        x.set(19, 0xc006);
+        x.step(1);
+        x.pause();
+        x.step(1);
+        Due.be("register(19) a step behind DI", x.register(19), 0x66);
         x.set(19, 0xc002);
         x.step(1);
         x.pause();

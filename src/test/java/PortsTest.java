@@ -137,6 +137,9 @@ public final class PortsTest {
             Due.be("in(" + p + ")", x.in(p), 0x20 + p);
         }
         Due.be("look(14) behind the ports 1 to 5", x.look(14), 255);
+        Due.be("look(13) behind the ports 1 to 5", x.look(13), 0);
+        x.press(0, 0);
+        Due.be("in(0xdc) behind the ports 1 to 5", x.in(0xdc), 255);
         x.out(6, 0x3c);
         Due.be("sound(18)", x.sound(18), 0x3c);
         Due.be("in(6)", x.in(6), 255);

@@ -8,6 +8,7 @@ public final class ProcessorTest {
         oneMoreAndLess();
         sums();
         differences();
+        wide();
         adjusting();
         halting();
         growingR();
@@ -121,6 +122,35 @@ public final class ProcessorTest {
                         | (signed < -128 || signed > 127 ? 4 : 0) | 2 | (a - b - carry < 0 ? 1 : 0);
                     Due.be("A of " + a + " - " + b + " - " + carry, x.register(0), k == 2 ? a : v);
                     Due.be("F of " + a + " - " + b + " - " + carry, x.register(1), f);
+                }
+            }
+        }
+    }
+
+    /** ADC and SBC of HL and BC. */
+    private static void wide() {
+        int[] words = {0, 1, 0x0fff, 0x1000, 0x7fff, 0x8000, 0xfffe, 0xffff};
+        for (int a : words) {
+            PadConsole x = new PadConsole(0);
+            for (int b : words) {
+                for (int k = 0; k < 4; k++) {
+                    boolean minus = k >= 2;
+                    int carry = k & 1;
+                    Due.code(x, 0xed, minus ? 0x42 : 0x4a);
+                    x.set(6, a >> 8);
+                    x.set(7, a);
+                    x.set(2, b >> 8);
+                    x.set(3, b);
+                    x.set(1, 0xfe | carry);
+                    x.step(1);
+                    int all = minus ? a - b - carry : a + b + carry;
+                    int signed = minus ? (short) a - (short) b - carry : (short) a + (short) b + carry;
+                    int half = minus ? (a & 0xfff) - (b & 0xfff) - carry : (a & 0xfff) + (b & 0xfff) + carry;
+                    int v = all & 0xffff;
+                    int f = v >> 8 & 0xa8 | (v == 0 ? 64 : 0) | (half < 0 || half > 0xfff ? 16 : 0)
+                        | (signed != (short) signed ? 4 : 0) | (minus ? 2 : 0) | (all != v ? 1 : 0);
+                    Due.be("HL of " + a + ", " + b + ", " + k, 256 * x.register(6) + x.register(7), v);
+                    Due.be("F of " + a + ", " + b + ", " + k, x.register(1), f);
                 }
             }
         }

@@ -50,6 +50,10 @@ public final class TextTest {
         text(z, 2, "jp (ix)", 0xdd, 0xe9);
         text(z, 2, "push iy", 0xfd, 0xe5);
         text(z, 3, "jr c002", 0xdd, 0x18, 0xff);
+        text(z, 1, "ld h,(hl)", 0x66);
+        text(z, 3, "inc (ix+05)", 0xdd, 0x34, 0x05);
+        text(z, 2, "inc iyl", 0xfd, 0x2c);
+        text(z, 2, "rl l", 0xcb, 0x15);
     }
 
     private static void signs() {
