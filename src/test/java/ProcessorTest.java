@@ -8,6 +8,7 @@ public final class ProcessorTest {
         oneMoreAndLess();
         sums();
         differences();
+        addingPairs();
         wide();
         adjusting();
         halting();
@@ -122,6 +123,31 @@ public final class ProcessorTest {
                         | (signed < -128 || signed > 127 ? 4 : 0) | 2 | (a - b - carry < 0 ? 1 : 0);
                     Due.be("A of " + a + " - " + b + " - " + carry, x.register(0), k == 2 ? a : v);
                     Due.be("F of " + a + " - " + b + " - " + carry, x.register(1), f);
+                }
+            }
+        }
+    }
+
+    /** ADD of HL and DE, which leaves S, Z and P alone. */
+    private static void addingPairs() {
+        int[] words = {0, 1, 0x0801, 0x0fff, 0x1000, 0x7fff, 0x8000, 0xffff};
+        for (int a : words) {
+            PadConsole x = new PadConsole(0);
+            for (int b : words) {
+                for (int f = 0; f < 256; f += 255) {
+                    Due.code(x, 0x19);
+                    x.set(6, a >> 8);
+                    x.set(7, a);
+                    x.set(4, b >> 8);
+                    x.set(5, b);
+                    x.set(1, f);
+                    x.step(1);
+                    int v = a + b & 0xffff;
+                    int due = f & 0xc4 | v >> 8 & 0x28 | ((a & 0xfff) + (b & 0xfff) > 0xfff ? 16 : 0)
+                        | (a + b > 0xffff ? 1 : 0);
+                    Due.be("HL of " + a + " + " + b, 256 * x.register(6) + x.register(7), v);
+                    Due.be("F of " + a + " + " + b, x.register(1), due);
+                    Due.be("WZ of " + a + " + " + b, x.register(20), a + 1 & 0xffff);
                 }
             }
         }
