@@ -19,6 +19,7 @@ public final class ProcessorTest {
         prefixes();
         places();
         repeating();
+        carriesOfPorts();
         programInPages();
         Due.end("ProcessorTest");
     }
@@ -378,6 +379,28 @@ public final class ProcessorTest {
         Due.be("E", x.register(5), 3);
         Due.be("C", x.register(3), 0);
         Due.be("P", x.register(1) & 4, 0);
+    }
+
+    /** H and C of outi and ini, where k is 255 and 256. */
+    private static void carriesOfPorts() {
+        PadConsole x = new PadConsole(0);
+        for (int k = 255; k <= 256; k++) {
+            int due = k > 255 ? 0x11 : 0;
+            Due.code(x, 0xed, 0xa3);
+            x.set(6, 0xd0);
+            x.set(7, 0x0f);
+            x.set(3, 0xc0);
+            x.poke(0xd00f, k - 0x10);
+            x.step(1);
+            Due.be("H and C of outi with " + k, x.register(1) & 0x11, due);
+            Due.code(x, 0xed, 0xa2);
+            x.set(3, 0xdc);
+            // With all of pad 1 pressed the port gives what is not pressed of pad 0; C + 1 is 0xdd.
+            x.press(1, 63);
+            x.press(0, 0x3f - (k - 0xdd));
+            x.step(1);
+            Due.be("H and C of ini with " + k, x.register(1) & 0x11, due);
+        }
     }
 
     private static void programInPages() {

@@ -259,7 +259,7 @@ public final class WavesTest {
         put(y, 16, 200);
         put(y, 32, 0x10);
         int n = 0;
-        int[] at = {10, 64 * 50, 64 * 104 + 9, 64 * 106, 64 * 200, 64 * 209, 64 * 211};
+        int[] at = {10, 64 * 50, 64 * 104 + 9, 64 * 106, 64 * 200, 64 * 209, 64 * 218};
         for (int then : at) {
             waves(y, then - n);
             n = then;
