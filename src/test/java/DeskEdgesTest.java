@@ -19,6 +19,7 @@ public final class DeskEdgesTest {
         promise14TheLatestOfOnePicture();
         promise14RoomComesBack();
         promise14AFrontThatWaitsHoldsTheOthers();
+        promise14PlansStay();
         promise17ZeroToEightBreakPoints();
         promise17FirstAndLastAddress();
         promise17NotAheadOfTheFirstStep();
@@ -360,6 +361,33 @@ public final class DeskEdgesTest {
             Due.be("look(16) behind picture " + (i + 1), x.look(16), waits[i]);
             Due.be("in(0xdc) behind picture " + (i + 1), x.in(0xdc), pads[i]);
         }
+    }
+
+    /** Plans stay with reset(), load() and an error, and come back with restore(), each with its pad and buttons. */
+    private static void promise14PlansStay() {
+        PadConsole x = new PadConsole(0);
+        x.plan(2, 1, 1);
+        x.plan(3, 0, 21);
+        x.reset();
+        Due.be("load() of nothing", x.load(), 1);
+        Due.tape(x, 8192, 0);
+        Due.be("load()", x.load(), 0);
+        Due.idle(x);
+        x.picture(1);
+        Due.be("in(0xdc) behind the first picture", x.in(0xdc), 255);
+        x.save();
+        x.picture(1);
+        Due.be("in(0xdc) behind the second picture", x.in(0xdc), 255 - 64);
+        x.picture(1);
+        Due.be("in(0xdc) behind the third picture", x.in(0xdc), 255 - 64 - 21);
+        Due.be("look(16) behind the third picture", x.look(16), 0);
+        x.plan(0, 0, 63);
+        x.restore();
+        Due.be("look(16) behind restore()", x.look(16), 2);
+        Due.be("in(0xdc) behind restore()", x.in(0xdc), 255);
+        Due.fail("plan(2, 0, 0) behind restore()", Due.ARGUMENT, () -> x.plan(2, 0, 0));
+        x.picture(2);
+        Due.be("in(0xdc) behind the third picture again", x.in(0xdc), 255 - 64 - 21);
     }
 
     /** "An address is a break point, or not any more: how many there are." "when there are 8 others". */
