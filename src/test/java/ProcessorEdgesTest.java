@@ -43,6 +43,9 @@ public final class ProcessorEdgesTest {
         prefixAloneHoldsForOneStep();
         interruptsNeedIff1AndAsking();
         haltsUntilCalled();
+        othersOfMoreDoNothing();
+        hAndLBesideAPlace();
+        flagsThatStay();
         Due.end("ProcessorEdgesTest");
     }
 
@@ -905,5 +908,82 @@ public final class ProcessorEdgesTest {
         Due.be("register(26) behind what asked", y.register(26), 0);
         Due.be("PC behind what asked", y.register(PC), 0x38);
         Due.be("peek of what was pushed", y.peek(0xdfee), 2);
+    }
+
+    /** MORE: "x 2, y 4 .. 7, z 0 .. 3", and beside them "All others: nothing: 8." */
+    private static void othersOfMoreDoNothing() {
+        for (int op = 0; op < 256; op++) {
+            boolean block = op >= 0xa0 && op < 0xc0 && op % 8 < 4;
+            boolean first = op >= 0x40 && op < 0x80 && op != 0x77 && op != 0x7f;
+            if (block || first) {
+                continue;
+            }
+            PadConsole x = new PadConsole(0);
+            for (int k = 0; k < 26; k++) {
+                x.set(k, k == PC ? 0xc000 : 0xd0d1);
+            }
+            Due.ram(x, 0xc000, 0xed, op);
+            x.step(1);
+            Due.be("beats of 0xed " + op, x.look(0), 8);
+            for (int k = 0; k < 26; k++) {
+                int due = k < 16 || k == 21 ? 0xd1 : k == PC ? 0xc002 : k == 22 ? 0xd3 : k < 22 ? 0xd0d1 : 1;
+                Due.be("register(" + k + ") behind 0xed " + op, x.register(k), due);
+            }
+            Due.be("peek(0xd0d1) behind 0xed " + op, x.peek(0xd0d1), 0);
+        }
+    }
+
+    /** "behind the op, ahead of n, comes d .. H and L are themselves: 12 more, with n 9 more"; without M "4 more". */
+    private static void hAndLBesideAPlace() {
+        PadConsole x = new PadConsole(0);
+        x.set(IX, 0xd010);
+        pair(x, 6, 0x1234);
+        Due.be("beats of ld (ix+02),h", beatsOf(x, 0xdd, 0x74, 0x02), 19);
+        Due.be("peek(0xd012), H itself", x.peek(0xd012), 0x12);
+        Due.be("beats of ld l,(ix+02)", beatsOf(x, 0xdd, 0x6e, 0x02), 19);
+        Due.be("L itself", pair(x, 6), 0x1212);
+        Due.be("IX, which stays", x.register(IX), 0xd010);
+        Due.be("beats of ld (ix+03),99", beatsOf(x, 0xdd, 0x36, 0x03, 0x99), 19);
+        Due.be("peek(0xd013)", x.peek(0xd013), 0x99);
+        Due.be("PC behind d and n", x.register(PC), 0xc004);
+        Due.be("beats of inc ixl", beatsOf(x, 0xdd, 0x2c), 8);
+        Due.be("IX", x.register(IX), 0xd011);
+        Due.be("beats of ld ixh,c1", beatsOf(x, 0xdd, 0x26, 0xc1), 11);
+        Due.be("IX", x.register(IX), 0xc111);
+        Due.be("H", pair(x, 6), 0x1212);
+        Due.be("beats of add (ix+00)", beatsOf(x, 0xdd, 0x86, 0x00), 19);
+        Due.be("beats of nop with a prefix", beatsOf(x, 0xdd, 0x00), 8);
+        Due.be("PC behind it", x.register(PC), 0xc002);
+        Due.be("beats of jp (ix)", beatsOf(x, 0xdd, 0xe9), 8);
+        Due.be("PC behind it", x.register(PC), 0xc111);
+        x.set(5, 7);
+        Due.be("beats of set 0,(ix+00),h", beatsOf(x, 0xdd, 0xcb, 0x00, 0xc4), 23);
+        Due.be("H, not IX's", x.register(6), 1);
+        Due.be("IX", x.register(IX), 0xc111);
+        Due.be("beats of bit 0,(ix+00)", beatsOf(x, 0xdd, 0xcb, 0x00, 0x44), 20);
+        Due.be("H, which bit leaves alone", x.register(6), 1);
+    }
+
+    /** "A flag that is not told stays.": cpl, scf, ccf, of each F. */
+    private static void flagsThatStay() {
+        for (int f = 0; f < 256; f += 15) {
+            PadConsole x = new PadConsole(0);
+            x.set(A, 0x28);
+            x.set(F, f);
+            beatsOf(x, 0x37);
+            Due.be("F of scf with " + f, x.register(F), f & 0xc4 | 0x28 | 1);
+            x.set(F, f);
+            beatsOf(x, 0x3f);
+            Due.be("F of ccf with " + f, x.register(F), f & 0xc4 | 0x28 | ((f & 1) == 1 ? 0x10 : 1));
+            x.set(F, f);
+            beatsOf(x, 0x2f);
+            Due.be("F of cpl with " + f, x.register(F), f & 0xc5 | 0x12);
+            Due.be("A of cpl", x.register(A), 0xd7);
+            x.set(F, f);
+            beatsOf(x, 0x3e, 0x00);
+            Due.be("F of ld a,n", x.register(F), f);
+            beatsOf(x, 0xeb);
+            Due.be("F of ex de,hl", x.register(F), f);
+        }
     }
 }
