@@ -204,24 +204,30 @@ public final class WavesTest {
         }
     }
 
-    /** Each entry of L, with LEVEL 0, and of E, with LEVEL 0 to 15. */
+    /**
+     * Each entry of L, with LEVEL 0, and of E, with LEVEL 0 to 15. The first entries of L are heard so softly that
+     * with LEVEL 0 their neighbours would sound the same: these with LEVEL 0 to 15, too.
+     */
     private static void tables() {
         for (int quarter = 0; quarter < 2; quarter++) {
             PadConsole x = frozen(0);
             waves(x, 1024 + 128 * quarter - phase(x, 0, 1) / 512);
-            for (int n = 0; n < 128; n++) {
-                int p = 128 * quarter + n;
-                Due.be("out at " + p, out(x, 0, 1), shape(p, 0, false));
-                waves(x, 1);
-            }
+            outsFrom(x, 128 * quarter, 128 * quarter + 128, 0);
         }
         for (int level = 0; level < 16; level++) {
             PadConsole x = frozen(level);
-            waves(x, 1024 + 200 - phase(x, 0, 1) / 512);
-            for (int p = 200; p < 256; p++) {
-                Due.be("out at " + p + ", level " + level, out(x, 0, 1), shape(p, level, false));
-                waves(x, 1);
-            }
+            waves(x, 1024 - phase(x, 0, 1) / 512);
+            outsFrom(x, 0, 32, level);
+            waves(x, 200 - 32);
+            outsFrom(x, 200, 256, level);
+        }
+    }
+
+    /** Goes on from the phase p, by 1 a wave. */
+    private static void outsFrom(PadConsole x, int from, int end, int level) {
+        for (int p = from; p < end; p++) {
+            Due.be("out at " + p + ", level " + level, out(x, 0, 1), shape(p, level, false));
+            waves(x, 1);
         }
     }
 
